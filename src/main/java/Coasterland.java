@@ -229,7 +229,7 @@ public final class Coasterland {
     public int dispatch(int ride) throws IndexOutOfBoundsException, UnsupportedOperationException {
         Ride at = rideAt(ride);
         Train train = at.trainInStation();
-        if (train == null || whatKeeps(at) != NOTHING) {
+        if (train == null || at.whatKeepsInStation(windNow, isLightningNear()) != NOTHING) {
             throw new UnsupportedOperationException("something keeps the train");
         }
         at.sendOff(train);
@@ -252,7 +252,11 @@ public final class Coasterland {
             throw new IllegalArgumentException("no such number of ticks");
         }
         for (int i = 0; i < ticks; i++) {
-            passOneTick();
+            tickNow++;
+            moveRides();
+            if (tickNow % RECOVERY_TICKS == 0) {
+                letGuestsRecover();
+            }
         }
         return tickNow;
     }
@@ -329,7 +333,7 @@ public final class Coasterland {
     }
 
     public char keeps(int ride) throws IndexOutOfBoundsException {
-        return whatKeeps(rideAt(ride));
+        return rideAt(ride).whatKeepsInStation(windNow, isLightningNear());
     }
 
     public int force(int ride, int block) throws IndexOutOfBoundsException, UnsupportedOperationException {
@@ -562,20 +566,16 @@ public final class Coasterland {
         return false;
     }
 
-    private char whatKeeps(Ride ride) {
-        return ride.whatKeepsInStation(windNow, struck && tickNow - strikeTick <= STRIKE_TICKS);
+    private boolean isLightningNear() {
+        return struck && tickNow - strikeTick <= STRIKE_TICKS;
     }
 
-    private void passOneTick() {
-        tickNow++;
+    private void moveRides() {
         for (Ride ride : rideList) {
             if (ride != null) {
                 ride.moveTrains(windNow);
                 ride.compareProcessors();
             }
-        }
-        if (tickNow % RECOVERY_TICKS == 0) {
-            letGuestsRecover();
         }
     }
 
@@ -802,7 +802,7 @@ public final class Coasterland {
             if (riderCount >= 0 && riderCount < riders.length) {
                 riders[riderCount] = guest;
                 riderCount++;
-                guest.place = IN_TRAIN;
+                guest.goAboard();
             }
         }
 
@@ -992,6 +992,11 @@ public final class Coasterland {
             money += paid;
             place = ON_PATHS;
             return paid;
+        }
+
+        void goAboard() {
+            line = null;
+            place = IN_TRAIN;
         }
 
         void haveMeal() {
