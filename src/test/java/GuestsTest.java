@@ -392,7 +392,14 @@ public final class GuestsTest {
         CHECK.is("15: the force that it had, 3 * 4 / 4 + 1", 4, park.get(0, 'n'));
         park.dispatch(0);
         park.tick(7);
-        CHECK.is("15: anew for each ride", 6, park.get(1, 'n'));
+        CHECK.is("15: a greater one in the next ride", 6, park.get(1, 'n'));
+        park.queue(0, 0, 'l');
+        park.dispatch(0);
+        park.setWind(16);
+        park.tick(2);
+        park.setWind(0);
+        park.tick(5);
+        CHECK.is("15: anew for each ride, behind the 10th tick", 3 + 4, park.get(0, 'n'));
     }
 
     private static void stopsHaveNoForce() {

@@ -322,6 +322,9 @@ public final class SafetyTest {
         CHECK.is("25: in with 3", 4, park.force(0, 1));
         CHECK.is("25: in with 20", 181, park.force(0, 2));
         CHECK.is("25: in with 1", 4, park.force(0, 3));
+        Parks.closed(park, 0, 40, 0, "s1 t12,0,0 t4,-1,9 l1,1,0");
+        CHECK.is("25: in with 0", 1, park.force(1, 2));
+        CHECK.is("25: behind it, in with 1", 1, park.force(1, 3));
     }
 
     private static void isHeld() {
