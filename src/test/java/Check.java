@@ -24,17 +24,32 @@ final class Check {
         is(what, true, got);
     }
 
-    /** The call must throw just this exception, and leave everything that can be asked as it was. */
+    /** The call must throw just this exception, and leave everything as it was. */
     void fails(String what, Class<? extends RuntimeException> due, Coasterland park, Call call) {
-        String before = Snapshot.of(park);
-        Object got;
+        is(what, due, answerWithoutChange(what, park, call));
+    }
+
+    /** The call must give this answer, and leave everything as it was. */
+    void tells(String what, Object due, Coasterland park, Call call) {
+        is(what, due, answerWithoutChange(what, park, call));
+    }
+
+    private Object answerWithoutChange(String what, Coasterland park, Call call) {
+        String asked = Snapshot.of(park);
+        String inside = Inside.of(park);
+        Object got = answer(call);
+        is(what + ", all that can be asked behind it", asked, Snapshot.of(park));
+        is(what + ", all that stands inside behind it", inside, Inside.of(park));
+        return got;
+    }
+
+    /** What the call answers, or the class of what it throws. */
+    static Object answer(Call call) {
         try {
-            got = call.run();
+            return call.run();
         } catch (RuntimeException e) {
-            got = e.getClass();
+            return e.getClass();
         }
-        is(what, due, got);
-        is(what + ", all behind it", before, Snapshot.of(park));
     }
 
     void end() {
