@@ -289,7 +289,7 @@ public final class GuestEdgesTest {
     /** The run may begin in a strong wind, with a force of 3 at the end; but as the wind rests, that force is 53. */
     private static int nauseaBehindAGreatForce(int meals, int ticks) {
         Coasterland park = Parks.working(0,
-                "s1 l1,9,0 l1,9,0 l1,5,0 t20,-3,0 t20,-5,0 t20,-5,0 t20,-5,0 t20,-5,0 t2,0,4", 1);
+                "s1 l1,9,0 l1,9,0 l1,5,0 t20,-3,0 t20,-5,0 t20,-5,0 t20,-5,0 t20,-5,0 l2,0,4", 1);
         park.enter(999, 100, 0);
         for (int i = 0; i < meals; i++) {
             park.eat(0);
@@ -301,7 +301,7 @@ public final class GuestEdgesTest {
         park.setWind(16);
         park.dispatch(0);
         park.setWind(0);
-        park.tick(13);
+        park.tick(14);
         return park.get(0, 'n');
     }
 
