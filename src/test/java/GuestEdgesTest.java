@@ -20,6 +20,7 @@ public final class GuestEdgesTest {
         hungerAtMost();
         greatestForceOfAll();
         guestsStayAboard();
+        guestsLeaveOnce();
         tenthTicks();
         moneyToTheLastCoin();
         hungriestOfSeveral();
@@ -362,6 +363,33 @@ public final class GuestEdgesTest {
         CHECK.is("34: in the station", 'p', park.whereIs(0));
         CHECK.is("35: one ride", 1, park.get(0, 'r'));
         CHECK.is("32: none aboard", 0, park.aboard(0, 0));
+    }
+
+    /** Who rode once is not met again as the train comes back with fewer guests, or with none. */
+    private static void guestsLeaveOnce() {
+        Coasterland park = inLine(3, "0000");
+        park.dispatch(0);
+        park.tick(7);
+        park.leave(1);
+        park.queue(2, 0, 's');
+        park.quit(2);
+        CHECK.is("15: one is left", 1, park.dispatch(0));
+        park.takeReturn(2, 0);
+        park.tick(5);
+        park.queue(2, 0, 'r');
+        park.tick(2);
+        CHECK.is("34: the one comes home", "poqp", places(park));
+        CHECK.is("15: with a return", 1, park.dispatch(0));
+        park.tick(7);
+        park.dispatch(0);
+        park.tick(7);
+        int[] due = {1, 1, 2, 1};
+        for (int guest = 0; guest < due.length; guest++) {
+            CHECK.is("35: rides of " + guest, due[guest], park.get(guest, 'r'));
+            CHECK.is("35: hunger of " + guest, due[guest], park.get(guest, 'h'));
+        }
+        CHECK.is("34: who is out stays out", "popp", places(park));
+        CHECK.is("43: five rides of four guests", 1.25, park.meanRides());
     }
 
     /** "In each 10th tick each nausea greater than 0 of a guest on the paths is 1 less." */

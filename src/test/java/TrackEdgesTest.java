@@ -13,6 +13,7 @@ public final class TrackEdgesTest {
         stallsBelowNothing();
         liftsTakeTwoTicks();
         forcesRoundedDown();
+        forcesInTheWind();
         forceSix();
         threeStrongForces();
         energyOfABadRun();
@@ -136,6 +137,22 @@ public final class TrackEdgesTest {
                 }
                 CHECK.is("force: length " + length + ", bend " + bend, whole + 1, forceBehindStation(length, bend));
             }
+        }
+    }
+
+    /** "0 in a stop, or behind a place where a train would stall", in the wind that blows now. */
+    private static void forcesInTheWind() {
+        Coasterland park = new Coasterland();
+        Parks.closed(park, 0, 40, 0, "s1 t4,0,4 t4,0,4 t4,0,4 t4,0,4 t4,0,4 b9 t4,0,4 t8,0,4 l4,0,4 t4,0,4");
+        int[] calm = {0, 4, 3, 2, 1, 0, 0, 4, 2, 1, 6};
+        int[] windy = {0, 4, 2, 0, 0, 0, 0, 4, 1, 0, 0};
+        for (int block = 0; block < calm.length; block++) {
+            park.setWind(0);
+            CHECK.is("force: no wind, block " + block, calm[block], park.force(0, block));
+            park.setWind(15);
+            CHECK.is("force: a wind of 15, block " + block, calm[block], park.force(0, block));
+            park.setWind(16);
+            CHECK.is("force: a wind of 16, block " + block, windy[block], park.force(0, block));
         }
     }
 
@@ -414,6 +431,31 @@ public final class TrackEdgesTest {
         park.tick(2);
         CHECK.is("trip: home", 0, park.blockOf(0, 0));
         inOneOfManyTicks();
+        seenAheadOfTheTrip(0);
+        seenAheadOfTheTrip(1);
+    }
+
+    /**
+     * A processor that sees something in each tick sees it also in the very tick in which the train goes on from
+     * there, ahead of the trip: the train behind it stays.
+     */
+    private static void seenAheadOfTheTrip(int processor) {
+        Coasterland park = Parks.working(0, Parks.ONLY_STOPS, 1);
+        park.dispatch(0);
+        park.tick(1);
+        park.addTrain(0, 1);
+        park.tick(2);
+        park.dispatch(0);
+        park.tick(1);
+        park.setSensor(0, 2, processor, 'a');
+        CHECK.is("trip: the one leaves the block 2", 'm', park.stateOf(0, 0));
+        CHECK.is("trip: the other one is in the block 1", 1, park.blockOf(0, 1));
+        CHECK.is("trip: both see the first one", false, park.hasTripped(0));
+        park.tick(1);
+        CHECK.is("trip: it went on", 3, park.blockOf(0, 0));
+        CHECK.is("trip: it is given back", false, park.isHeld(0, 2));
+        CHECK.is("trip: but one sees something there", 's', park.stateOf(0, 1));
+        CHECK.is("trip: behind the tick", true, park.hasTripped(0));
     }
 
     private static void inOneOfManyTicks() {
