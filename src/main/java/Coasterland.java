@@ -253,7 +253,12 @@ public final class Coasterland {
         }
         for (int i = 0; i < ticks; i++) {
             tickNow++;
-            moveRides();
+            for (Ride ride : rideList) {
+                if (ride != null) {
+                    ride.moveTrains(windNow);
+                    ride.compareProcessors();
+                }
+            }
             if (tickNow % RECOVERY_TICKS == 0) {
                 letGuestsRecover();
             }
@@ -568,15 +573,6 @@ public final class Coasterland {
 
     private boolean isLightningNear() {
         return struck && tickNow - strikeTick <= STRIKE_TICKS;
-    }
-
-    private void moveRides() {
-        for (Ride ride : rideList) {
-            if (ride != null) {
-                ride.moveTrains(windNow);
-                ride.compareProcessors();
-            }
-        }
     }
 
     private void letGuestsRecover() {

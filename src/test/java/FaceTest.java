@@ -10,7 +10,7 @@ import java.util.Set;
 import java.util.regex.Matcher;
 import java.util.regex.Pattern;
 
-/** The face of the document, and the rules of LANGUAGE.md that can be told from outside. */
+/** The face of the document, and that there is no more to it (LANGUAGE.md, rule 1). */
 public final class FaceTest {
     private static final Check CHECK = new Check();
 
@@ -27,14 +27,12 @@ public final class FaceTest {
             }
         }
         noOtherMember(Coasterland.class);
-        classInside(Coasterland.class, names);
+        noNameOfTheFace(Coasterland.class, names);
         for (Class<?> inside : Coasterland.class.getDeclaredClasses()) {
             CHECK.holds("rule 1: " + inside, Modifier.isStatic(inside.getModifiers())
                     && !Modifier.isPublic(inside.getModifiers()) && !Modifier.isProtected(inside.getModifiers()));
-            classInside(inside, names);
+            noNameOfTheFace(inside, names);
         }
-        CHECK.holds("rule 11: classes", Coasterland.class.getDeclaredClasses().length <= 12);
-        source(Files.readString(Path.of("src/main/java/Coasterland.java")));
         CHECK.end();
     }
 
@@ -86,59 +84,13 @@ public final class FaceTest {
         }
     }
 
-    private static void classInside(Class<?> type, Set<String> publicNames) {
-        int fields = 0;
-        for (Field field : type.getDeclaredFields()) {
-            if (Modifier.isStatic(field.getModifiers())) {
-                CHECK.holds("rule 5: " + field, Modifier.isFinal(field.getModifiers())
-                        && (field.getType().isPrimitive() || field.getType() == String.class));
-            } else {
-                fields++;
-            }
-        }
-        CHECK.holds("rule 11: fields of " + type, fields <= 20);
+    private static void noNameOfTheFace(Class<?> type, Set<String> publicNames) {
         for (Method method : type.getDeclaredMethods()) {
-            CHECK.holds("rule 11: " + method, method.getParameterCount() <= 7);
             CHECK.holds("rule 1: " + method, isPublicMember(method) || !publicNames.contains(method.getName()));
         }
     }
 
     private static boolean isPublicMember(Member member) {
         return Modifier.isPublic(member.getModifiers());
-    }
-
-    private static void source(String text) {
-        String code = text.replaceAll("(?s)/\\*.*?\\*/", "").replaceAll("//[^\n]*", "")
-                .replaceAll("\"[^\"\n]*\"", "\"\"").replaceAll("'.'", "'c'");
-        String[] banned = {"->", "::", "\\btry\\b", "\\bcatch\\b", "\\bfinally\\b", "\\bsynchronized\\b",
-            "\\bassert\\b", "\\bvar\\b", "\\bpackage\\b", "@", "\\bThread\\b",
-            "\\bSystem\\b(?!\\.arraycopy)", "Exact\\b", "\\bRandom\\b", "\\btransient\\b", "\\bvolatile\\b", "\\bnative\\b", "\"\\s*\\+", "\\+\\s*\"",
-            "\\bstatic\\s*\\{", "\\bObject\\b", "\\bwhile\\s*\\(true\\)", "for\\s*\\(;;"};
-        for (String pattern : banned) {
-            CHECK.is("LANGUAGE.md: " + pattern, false, Pattern.compile(pattern).matcher(code).find());
-        }
-        Matcher imported = Pattern.compile("import ([\\w.]+);").matcher(code);
-        while (imported.find()) {
-            CHECK.is("rule 4: import", "java.util.NoSuchElementException", imported.group(1));
-        }
-        for (char sign : text.toCharArray()) {
-            if (sign > 126) {
-                CHECK.is("a sign of the source", "up to 126", (int) sign);
-            }
-        }
-        shortMethods(code);
-    }
-
-    private static void shortMethods(String code) {
-        String[] lines = code.split("\n");
-        int start = 0;
-        for (int i = 0; i < lines.length; i++) {
-            if (lines[i].matches("( {4}| {8})[\\w ]+\\(.*")) {
-                start = i;
-            }
-            if (lines[i].matches("( {4}| {8})\\}")) {
-                CHECK.holds("rule 11: the method in line " + start, i - start <= 60 || lines[i].equals("    }"));
-            }
-        }
     }
 }

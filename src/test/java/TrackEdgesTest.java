@@ -308,7 +308,8 @@ public final class TrackEdgesTest {
     private static Coasterland keptBy(char one, char other) {
         String both = "" + one + other;
         Coasterland park = new Coasterland();
-        Parks.closed(park, 0, both.indexOf('w') >= 0 ? 9 : 40, 0, both.indexOf('f') >= 0 ? "s1 t16 b1 b1" : "s1 t1 b1 b1");
+        Parks.closed(park, 0, both.indexOf('w') >= 0 ? 9 : 40, 0,
+                both.indexOf('f') >= 0 ? "s1 t16 b1 b1" : "s1 t1 b1 b1");
         park.addTrain(0, 1);
         park.addStaff(1);
         park.setWind(10);
